@@ -90,6 +90,14 @@ public final class CustomsTest {
         bad("prices first;", 1, 0);
         bad("pric first;", 1, 0);
         bad("Price first;", 1, 0);
+        bad("lax 5;", 1, 0);
+        bad("taz 5;", 1, 0);
+        bad("taxz 5;", 1, 0);
+        bad("tax`5;", 1, 3);
+        bad("tax{5;", 1, 3);
+        bad("tax 5:", 1, 5);
+        bad("tax 5/;", 1, 5);
+        bad("price zirst;", 1, 6);
         bad("price firsts;", 1, 6);
         bad("price firs;", 1, 6);
         bad("price next;", 1, 6);

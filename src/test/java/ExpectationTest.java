@@ -7,6 +7,7 @@ public final class ExpectationTest {
         seenThatNoKindHas();
         likelyByWhatWasSeen();
         bestSellsWhenAlike();
+        bestCountsTheRarest();
         bestLooksAhead();
         bestTakesTheGradeSeenLast();
         costsBeyondWorths();
@@ -129,6 +130,14 @@ public final class ExpectationTest {
         bestIs(x, 16, 1, 2);
         Check.customs(x, "shut 9;cost 2;");
         bestIs(x, 18, 1, 1);
+    }
+
+    private static void bestCountsTheRarest() {
+        StoneHall x = hall("", 0, 16);
+        x.boulder(0, 1, 0);
+        x.kind(1, 15, 1, 0, 0);
+        restIs(x, 1, 1);
+        bestIs(x, 1, 1, 2);
     }
 
     private static void bestLooksAhead() {

@@ -1,6 +1,7 @@
 import java.math.BigInteger;
 import java.util.ArrayList;
 import java.util.Arrays;
+import java.util.HashMap;
 import java.util.LinkedHashMap;
 import java.util.List;
 import java.util.Map;
@@ -73,6 +74,7 @@ final class HallModel {
     private final List<int[]> kinds = new ArrayList<>();
     private final List<Integer> purses = new ArrayList<>();
     private final List<Stone> stones = new ArrayList<>();
+    private final Map<List<Integer>, Fraction> found = new HashMap<>();
     private int[] sale = null;
     private int hall = 0;
 
@@ -432,10 +434,20 @@ final class HallModel {
         return sum;
     }
 
+    // of like slices in another order, with the same one last, the best is the same: found once for each question
     private Fraction bestOf(List<Integer> shown, int left) {
-        if (left == 0) {
-            return Fraction.of(0);
+        List<Integer> key = new ArrayList<>(shown);
+        key.sort(null);
+        key.add(shown.get(shown.size() - 1));
+        Fraction known = found.get(key);
+        if (known == null) {
+            known = left == 0 ? Fraction.of(0) : greaterOf(shown, left);
+            found.put(key, known);
         }
+        return known;
+    }
+
+    private Fraction greaterOf(List<Integer> shown, int left) {
         Fraction cutting = cutting(shown, left);
         Fraction selling = Fraction.of((long) left * offer(shown));
         return cutting.above(selling) ? cutting : selling;
@@ -457,6 +469,7 @@ final class HallModel {
         if (!canTell(b) || what < 0 || what > 2) {
             return Long.MIN_VALUE;
         }
+        found.clear();
         Stone s = stones.get(b);
         Fraction cutting = cutting(s.shown, s.hidden.size());
         Fraction selling = Fraction.of((long) s.hidden.size() * offer(s.shown));

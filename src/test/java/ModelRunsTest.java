@@ -3,7 +3,7 @@ import java.util.Random;
 
 /** All promises: long runs of calls, the same ones each time, held against the model of the document. */
 public final class ModelRunsTest {
-    private static final int RUNS = 700;
+    private static final int RUNS = 600;
     private static final int CALLS = 512;
     private static final int[] EXTREMES = {
         Integer.MIN_VALUE, Integer.MAX_VALUE, -1, -2, 16, 400, 512, 65535, 1 << 30, Integer.MIN_VALUE + 1};
@@ -25,8 +25,7 @@ public final class ModelRunsTest {
 
     private ModelRunsTest(long seed) {
         random = new Random(seed);
-        // the model's way of finding BEST takes long for many slices
-        most = seed % 50 == 0 ? 8 : 5;
+        most = seed % 2 == 0 ? 8 : 4;
     }
 
     public static void main(String[] args) {
@@ -93,7 +92,7 @@ public final class ModelRunsTest {
             case 20: look(at); break;
             case 21: parts(at); break;
             case 22: rest(at); break;
-            case 23: if (random.nextInt(3) == 0) best(at); break;
+            case 23: best(at); break;
             case 24: likely(at); break;
             default: tell(at); break;
         }
