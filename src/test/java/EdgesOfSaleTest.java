@@ -219,6 +219,12 @@ public final class EdgesOfSaleTest {
         x.bid(2, 0, 50);
         x.bid(1, 0, 50);
         Edge.due("the earlier, not the lower number", x.open(0), 3);
+        StoneHall rising = bids("default next;", purses(0, 9, 20, 9, 9), 10, 20, 30, 40);
+        Edge.due("told from the least to the greatest: the third of them can pay", rising.open(0), 2);
+        saleIs(rising, 20, 2, 0, 0);
+        StoneHall mixed = bids("default next;", purses(0, 9, 9, 30, 9, 9), 50, 10, 30, 40, 30);
+        Edge.due("told this way and that: the third of them can pay", mixed.open(0), 3);
+        saleIs(mixed, 30, 2, 0, 0);
         StoneHall most = bids("", purses(0, 99999, 99999), 99998, 99999);
         Edge.due("the greatest that there may be", most.open(0), 2);
     }
@@ -340,6 +346,16 @@ public final class EdgesOfSaleTest {
         Edge.due("one less", bids("tie none;", purses(0, 99, 99), 50, 49).open(0), 1);
         Edge.due("the second and third", bids("tie none;", purses(0, 99, 99, 99), 51, 50, 50).open(0), 1);
         Edge.due("one alone", bids("tie none;", purses(0, 99), 50).open(0), 1);
+        StoneHall again = bids("tie none;", purses(0, 99, 99, 99), 60, 50);
+        again.open(0);
+        again.bid(3, 0, 50);
+        Edge.due("one alone, alike with a bid of the SALE before", again.open(0), 3);
+        StoneHall behind = bids("tie none;default next;", purses(0, 9, 99, 99), 70, 60, 50);
+        behind.open(0);
+        behind.boulder(0, 1, 0);
+        behind.bid(1, 1, 70);
+        behind.bid(3, 1, 50);
+        Edge.due("one alone behind a default", behind.open(1), 3);
         Edge.due("tie first", bids("tie first;", purses(0, 99, 99), 50, 50).open(0), 1);
         StoneHall out = bids("tie none;deposit 100;", purses(0, 49, 99), 50, 50);
         Edge.due("one of the two is out", out.open(0), 2);
@@ -398,6 +414,11 @@ public final class EdgesOfSaleTest {
         Edge.due("reserve 0", zero.open(0), 1);
         saleIs(zero, 1, 0, 0, 0);
         pursesAre(zero, 1, 98);
+        StoneHall again = bids("price second;", purses(0, 99, 99, 99), 60, 50);
+        again.open(0);
+        again.bid(3, 0, 80);
+        Edge.due("none left, though there was one in the SALE before", again.open(0), 3);
+        saleIs(again, 1, 0, 0, 0);
         StoneHall unsaid = bids("price second;", purses(0, 1), 99999);
         Edge.due("no reserve", unsaid.open(0), 1);
         saleIs(unsaid, 1, 0, 0, 0);

@@ -267,6 +267,12 @@ public final class EdgesOfTextTest {
         bad("taxx 1;", 1, 0);
         bad("xtax 1;", 1, 0);
         bad("t ax 1;", 1, 0);
+        bad("lax 1;", 1, 0);
+        bad("txx 1;", 1, 0);
+        bad("taz 1;", 1, 0);
+        bad("tie zone;", 1, 4);
+        bad("tie nine;", 1, 4);
+        bad("tie nona;", 1, 4);
         bad("tax`1;", 1, 3);
         bad("tax{1;", 1, 3);
         bad("`tax 1;", 1, 0);
