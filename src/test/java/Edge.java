@@ -74,8 +74,8 @@ final class Edge {
         Check.due(where + call + (got.equals(want) ? "" : ": " + got), got.equals(want), true);
     }
 
-    // without the document at hand there is nothing to hold the sentence against
-    private static String section(String heading) {
+    /** What stands under a heading, in one line; empty without the document, as then nothing can be held against it. */
+    static String section(String heading) {
         if (document == null) {
             document = read();
         }

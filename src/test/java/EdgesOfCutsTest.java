@@ -13,6 +13,8 @@ public final class EdgesOfCutsTest {
         cutThatOneOfEightCannotPay();
         costsByParts();
         worthComesBehindTheCost();
+        worthIsGotByParts();
+        worthIsNotOfTheHall();
         sellOfNoSuchBoulder();
         sellOfASpentOne();
         sellOfAShutOne();
@@ -148,6 +150,32 @@ public final class EdgesOfCutsTest {
         Edge.due("the first", x.cut(0), 0);
         Edge.due("the next is paid by the first one's WORTH", x.cut(0), 0);
         pursesAre(x, 15);
+    }
+
+    private static void worthIsGotByParts() {
+        Edge.says("Terms", "(else it is refused), and get its WORTH.");
+        StoneHall x = owners("", purses(0, 0), 15, 1);
+        x.cut(0);
+        // 10 by 15 and 1 parts: 9 and 0, and 1 is left
+        pursesAre(x, 10, 0);
+        x.share(0, 0, 1, 11);
+        x.cut(0);
+        // the parts of now: 10 by 4 and 12 are 2 and 7, and 1 is left
+        pursesAre(x, 13, 7);
+        x.share(0, 0, 1, 4);
+        x.cut(0);
+        pursesAre(x, 13, 17);
+    }
+
+    private static void worthIsNotOfTheHall() {
+        Edge.says("Terms", "SELL: the rest is sold to the HALL:");
+        StoneHall x = owners("shut 3;offer 0 7;", purses(0, 0), 8, 8);
+        x.cut(0);
+        Edge.due("a WORTH is not paid by the HALL", x.count(4), 0);
+        Edge.due("three left", x.sell(0), 21);
+        Edge.due("paid by the HALL", x.count(4), -21);
+        pursesAre(x, 16, 15);
+        Edge.due("the PARTS stay", x.parts(0, 1), 8);
     }
 
     private static void sellOfNoSuchBoulder() {

@@ -33,6 +33,7 @@ public final class EdgesOfThingsTest {
         lookWhetherSpent();
         partsOfNoSuchOnes();
         purseOfNoSuchMan();
+        countOfEach();
         countOfAnotherWhat();
         coinsOfTheHall();
         Check.end();
@@ -531,6 +532,30 @@ public final class EdgesOfThingsTest {
         for (int far : Scenes.FAR) {
             Edge.refuses(BUSY, "purse(" + far + ")", h -> h.purse(far), -1);
         }
+    }
+
+    private static void countOfEach() {
+        Edge.says("Promise 21", "0 GRADES, 1 KINDS, 2 MEN, 3 BOULDERS, 4 coins of the HALL");
+        StoneHall x = new StoneHall();
+        countsAre(x, 0, 0, 0, 0);
+        x.grade(1);
+        countsAre(x, 1, 0, 0, 0);
+        x.kind(1, 16, 0, 0, 0);
+        countsAre(x, 1, 1, 0, 0);
+        x.man(1);
+        countsAre(x, 1, 1, 1, 0);
+        x.boulder(0, 1, 0);
+        countsAre(x, 1, 1, 1, 1);
+        x.sell(0);
+        countsAre(x, 1, 1, 1, 1);
+    }
+
+    private static void countsAre(StoneHall x, int grades, int kinds, int men, int boulders) {
+        Edge.due("GRADES", x.count(0), grades);
+        Edge.due("KINDS", x.count(1), kinds);
+        Edge.due("MEN", x.count(2), men);
+        Edge.due("BOULDERS", x.count(3), boulders);
+        Edge.due("coins", x.count(4), 0);
     }
 
     private static void countOfAnotherWhat() {

@@ -5,11 +5,15 @@ import java.lang.reflect.Modifier;
 import java.util.Arrays;
 import java.util.HashSet;
 import java.util.List;
+import java.util.NoSuchElementException;
 import java.util.Set;
 import java.util.TreeSet;
+import java.util.regex.Matcher;
+import java.util.regex.Pattern;
 
 /** The face is the document's and no more; promise 1: what a new object answers. */
 public final class FaceTest {
+    private static final Pattern METHOD = Pattern.compile("public (\\w+ \\w+)\\(([^)]*)\\)");
     private static final List<String> FACE = List.of(
             "int feed(int,int,int,int,int)", "int customs(int)", "int fault(int)", "int grade(int)",
             "int kind(int,int,int,int,int)", "int man(int)", "int boulder(int,int,int)",
@@ -18,11 +22,34 @@ public final class FaceTest {
             "long rest(int,int)", "long best(int,int)", "long likely(int,int,int)", "int count(int)");
 
     public static void main(String[] args) {
+        documentsFace();
         methods();
+        declaredExceptions();
         fieldsAndConstructors();
         newObject();
         twoObjectsShareNothing();
         Check.end();
+    }
+
+    private static void documentsFace() {
+        Edge.says("The public face", "public final class StoneHall { public static final int NONE = -1; public StoneHall();");
+        String section = Edge.section("The public face");
+        Set<String> told = new TreeSet<>();
+        Matcher method = METHOD.matcher(section);
+        while (method.find()) {
+            String types = method.group(2).replaceAll(" \\w+(?=,|$)", "").replace(", ", ",");
+            told.add(method.group(1) + "(" + types + ")");
+        }
+        Edge.due("these methods: " + told, section.isEmpty() || told.equals(new TreeSet<>(FACE)), true);
+    }
+
+    private static void declaredExceptions() {
+        Edge.says("The public face", "public int look(int boulder, int what) throws IndexOutOfBoundsException, NoSuchElementException;");
+        for (Method m : StoneHall.class.getDeclaredMethods()) {
+            List<Class<?>> due = m.getName().equals("look")
+                    ? List.of(IndexOutOfBoundsException.class, NoSuchElementException.class) : List.of();
+            Edge.due("exceptions of " + m.getName(), Arrays.asList(m.getExceptionTypes()).equals(due), true);
+        }
     }
 
     private static void methods() {
